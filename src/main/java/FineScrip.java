@@ -456,7 +456,7 @@ public final class FineScrip {
      * is not among those that the program may call.
      */
     private static long bitsOfShare(double share) {
-        if (!(share > 0.0)) {
+        if (share <= 0.0) {
             return 0L;
         }
         double scaled = share;
@@ -908,7 +908,8 @@ public final class FineScrip {
             if (least == NONE) {
                 return NONE;
             }
-            int worth = worthOf(1000 * least / 1000);
+            // Of 1000 grains just so many are fine as the fineness tells.
+            int worth = worthOf(least);
             // A greater fineness never makes the price less, so the greatest one is found by halving.
             int safe = LEAST_FINENESS - 1;
             for (int step = 256; step > 0; step /= 2) {

@@ -65,6 +65,16 @@ public final class FineScripPromises {
         return x;
     }
 
+    /** A camp whose store paid one cent more than what is fine is worth. */
+    private static FineScrip oneCentLost() {
+        FineScrip x = camp(1);
+        x.set(0, 1000);
+        x.set(1, 10);
+        x.vein(0, 999);
+        x.weigh(0, 10);
+        return x;
+    }
+
     private static void p1NewObject() {
         due("1 NONE", -1, FineScrip.NONE);
         FineScrip x = new FineScrip();
@@ -333,6 +343,8 @@ public final class FineScripPromises {
         due("9 error", 100, x.count(6));
         due("9 adjust", 50, x.adjust(0));
         x.undo();
+        x.adjust(-1);
+        due("9 without its sign", 1, x.adjust(50));
         due("9 undone", 100, x.count(6));
         x.set(4, 2);
         x.adjust(7);
@@ -411,7 +423,9 @@ public final class FineScripPromises {
         }
         noState("10 10000", x, () -> x.pass(10));
         noArgument("10 days before the day", x, () -> x.pass(31));
-        x.pass(9);
+        x.pass(8);
+        write(x, "n;n");
+        due("15 one day more", 1, x.live());
         due("10 the last day", 9999, x.count(0));
         noState("10 above", x, () -> x.pass(1));
         write(x, "n");
@@ -684,6 +698,23 @@ public final class FineScripPromises {
         due("18 weighed in today", 0, x.claim(0, 2));
     }
 
+    private static void p18Bars() {
+        FineScrip x = camp(1);
+        x.weigh(0, 100);
+        x.melt();
+        x.keep(0);
+        x.undo();
+        x.weigh(0, 900);
+        due("18 the bar is another one", 0, x.melt());
+        due("18 the bar is another one", 1000, x.bar(0, 0));
+        x.goBack(0);
+        due("17 the bar is as it was", 100, x.bar(0, 0));
+        x.undo();
+        due("18 and again", 1000, x.bar(0, 0));
+        due("18 and again", 800, x.bar(0, 1));
+        due("18 and again", 3000, x.bar(0, 3));
+    }
+
     private static void p19DiggerOf() {
         FineScrip x = new FineScrip();
         noIndex("19 none", x, () -> x.diggerOf(0, 9));
@@ -706,6 +737,8 @@ public final class FineScripPromises {
         due("19 paid and fees are the worth", 0, x.diggerOf(0, 8));
         x.set(1, 39);
         due("19 by setting 1 as it is", 1, x.diggerOf(0, 8));
+        FineScrip y = oneCentLost();
+        due("19 one cent lost", 1, y.diggerOf(0, 8));
     }
 
     private static void p20Claim() {
@@ -749,6 +782,10 @@ public final class FineScripPromises {
         x.weigh(0, 1);
         x.melt();
         due("21 nothing fine", 0, x.bar(1, 2));
+        x.vein(0, 1000);
+        x.weigh(0, 1);
+        x.melt();
+        due("21 all is fine", 1000, x.bar(2, 2));
     }
 
     private static void p22Count() {
@@ -866,6 +903,7 @@ public final class FineScripPromises {
         x.vein(0, 500);
         x.weigh(0, 4);
         due("26 a little", 0, x.worst());
+        due("26 one cent", 0, oneCentLost().worst());
     }
 
     private static void p27SafeFineness() {
@@ -892,9 +930,13 @@ public final class FineScripPromises {
         x.vein(4, 777);
         x.set(1, 40);
         due("27 scale tells less", greatestSafe(950, 777, 40), x.safeFineness());
+        x.vein(4, 1000);
+        x.adjust(1);
+        due("27 1000 told as 1001", 999, x.safeFineness());
+        x.vein(4, 777);
         x.adjust(33);
         x.set(1, 7);
-        due("27 scale tells more", greatestSafe(1033, 777, 7), x.safeFineness());
+        due("27 scale tells more, odd cents", greatestSafe(1033, 777, 7), x.safeFineness());
     }
 
     private static int greatestSafe(int told, int fineness, int cents) {
@@ -919,6 +961,8 @@ public final class FineScripPromises {
         dueShare("28 share", 966.0 / 1301, x.fineShare());
         FineScrip y = camp(1);
         y.vein(0, 1000);
+        y.weigh(0, 1);
+        dueShare("28 one grain", 1.0, y.fineShare());
         y.weigh(0, 7);
         dueShare("28 all", 1.0, y.fineShare());
     }
@@ -981,12 +1025,14 @@ public final class FineScripPromises {
         z.vein(0, 500);
         z.weigh(0, 3);
         due("29 share 1/3", hashOf(z, false, false, ""), z.digest());
-        z.weigh(0, 1);
-        z.weigh(0, 1);
-        z.weigh(0, 1);
-        z.weigh(0, 1);
-        z.weigh(0, 1);
-        due("29 share 1/8", hashOf(z, false, false, ""), z.digest());
+        for (int grains = 4; grains <= 120; grains++) {
+            z.weigh(0, 1);
+            due("29 share 1/" + grains, hashOf(z, false, false, ""), z.digest());
+        }
+        z.set(0, 1000);
+        z.set(1, 10);
+        z.set(2, 0);
+        due("29 grains for 100", hashOf(z, false, false, ""), z.digest());
         long before = z.digest();
         due("29 changes nothing", before, z.digest());
     }
@@ -1017,6 +1063,7 @@ public final class FineScripPromises {
         p17GoBack();
         p18Undo();
         p18AllIsRestored();
+        p18Bars();
         p19DiggerOf();
         p20Claim();
         p21Bar();
