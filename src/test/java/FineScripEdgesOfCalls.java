@@ -2,6 +2,7 @@
 public final class FineScripEdgesOfCalls {
     private static final int LEAST_INT = Integer.MIN_VALUE;
     private static final int MOST_INT = Integer.MAX_VALUE;
+    private static final int BUSY_LOT = 333 + 50 + 21;
     // The busy camp has the diggers 0 to 2.
     private static final int[] NO_DIGGERS = {-1, 3, 7, 8, LEAST_INT, MOST_INT};
     private static final int[] NO_CLAIMS = {-1, 10, LEAST_INT, MOST_INT};
@@ -232,13 +233,14 @@ public final class FineScripEdgesOfCalls {
 
     // ---- 6
 
-    /** The lot of the busy camp, with so many grains. */
+    /** The busy camp, its lot filled up to so many grains. */
     private static void lotOf(FineScrip x, int grains) {
         Edges.busy(x);
-        while (x.count(3) < grains) {
-            int lacking = grains - x.count(3);
-            x.weigh(1, lacking < 9999 ? lacking : 9999);
+        int lacking = grains - BUSY_LOT;
+        for (; lacking > 9999; lacking -= 9999) {
+            x.weigh(1, 9999);
         }
+        x.weigh(1, lacking);
     }
 
     private static void weigh() {
@@ -436,10 +438,10 @@ public final class FineScripEdgesOfCalls {
 
     // ---- 8
 
-    /** A bar of each weighing, until there are so many. */
+    /** The busy camp, which has one bar, with so many bars and a lot. */
     private static void bars(FineScrip x, int bars) {
         Edges.busy(x);
-        while (x.count(5) < bars) {
+        for (int i = 1; i < bars; i++) {
             x.melt();
             x.weigh(1, 5);
         }
@@ -1150,6 +1152,43 @@ public final class FineScripEdgesOfCalls {
             }
             Edges.refusedHere("the seventh", Edges.STATE, x, FineScrip::undo);
             Edges.due("the oldest was dropped", 1, x.count(0));
+        });
+        Edges.test("18: calls and undo in turn, over more than six states", () -> {
+            FineScrip x = new FineScrip();
+            int[] days = new int[200];
+            int saved = 0;
+            int depth = 0;
+            for (int round = 1; round <= 12; round++) {
+                for (int i = 0; i < round; i++) {
+                    x.pass(1 + i % 3);
+                    depth++;
+                    days[depth] = days[depth - 1] + 1 + i % 3;
+                    saved = saved < 6 ? saved + 1 : 6;
+                }
+                for (int i = 0; i < round / 2 && saved > 0; i++) {
+                    depth--;
+                    saved--;
+                    Edges.due("undo in round " + round, saved, x.undo());
+                    Edges.due("the day in round " + round, days[depth], x.count(0));
+                }
+            }
+        });
+        Edges.test("18: what is called behind an undo does not touch the states before", () -> {
+            Edges.sameNow("undone twice", y -> {
+                Edges.busy(y);
+                y.undo();
+                y.undo();
+                y.set(0, 750);
+                y.undo();
+            }, y -> {
+                Edges.busy(y);
+                y.undo();
+                y.weigh(0, 300);
+                y.undo();
+                y.goBack(0);
+                y.undo();
+                y.undo();
+            });
         });
         Edges.test("18: undo itself is not undoable", () -> {
             FineScrip x = new FineScrip();

