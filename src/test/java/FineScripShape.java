@@ -5,7 +5,9 @@ import java.lang.reflect.Method;
 import java.lang.reflect.Modifier;
 import java.nio.file.Files;
 import java.nio.file.Path;
+import java.util.ArrayList;
 import java.util.Arrays;
+import java.util.List;
 import java.util.Set;
 import java.util.TreeSet;
 import java.util.regex.Matcher;
@@ -51,8 +53,14 @@ public final class FineScripShape {
     private static final String[] FORBIDDEN = {
         "import ", "Exact\\(", "Double\\.", "Float\\.", "->", "::", "\\btry\\b", "\\bcatch\\b", "\\bfinally\\b", "\\bassert\\b",
         "\\bsynchronized\\b", "\\bpackage\\b", "\\bSystem\\.(?!arraycopy)", "\\bMath\\.", "\\bprotected\\b",
-        "\\bstatic\\s*\\{", "\" *\\+", "\\+ *\"",
+        "\\bstatic\\s*\\{", "\" *\\+", "\\+ *\"", "while *\\(true\\)", "for *\\(;;", "[^\\x09\\x0a\\x20-\\x7e]",
+        "\\.(getMessage|equals|hashCode|toString)\\(",
     };
+
+    private static final int MOST_LINES = 60;
+    private static final int MOST_PARAMETERS = 7;
+    private static final int MOST_CLASSES = 12;
+    private static final int MOST_FIELDS = 20;
 
     private static int wrong = 0;
 
@@ -115,6 +123,39 @@ public final class FineScripShape {
         }
     }
 
+    private static void checkSizes() {
+        List<Class<?>> types = new ArrayList<>(Arrays.asList(FineScrip.class.getDeclaredClasses()));
+        types.add(FineScrip.class);
+        due(types.size() + " classes are too many", false, types.size() > MOST_CLASSES);
+        for (Class<?> type : types) {
+            long fields = Arrays.stream(type.getDeclaredFields()).filter(f -> !Modifier.isStatic(f.getModifiers())).count();
+            due(type + " has too many fields", false, fields > MOST_FIELDS);
+            for (Method method : type.getDeclaredMethods()) {
+                due(method + " has too many parameters", false, method.getParameterCount() > MOST_PARAMETERS);
+            }
+            for (Field field : type.getDeclaredFields()) {
+                boolean isStatic = Modifier.isStatic(field.getModifiers());
+                due(field + " is static, not final", false, isStatic && !Modifier.isFinal(field.getModifiers()));
+            }
+        }
+    }
+
+    /** No block of the class, or of a class inside it, is longer than a method may be. */
+    private static void checkLengths(String source) {
+        String[] lines = source.split("\n");
+        for (int from = 0; from < lines.length; from++) {
+            Matcher opening = Pattern.compile("( {4}| {8})\\S.*\\{").matcher(lines[from]);
+            if (!opening.matches() || lines[from].contains(" class ")) {
+                continue;
+            }
+            int to = from + 1;
+            while (to < lines.length && !lines[to].startsWith(opening.group(1) + "}")) {
+                to++;
+            }
+            due(lines[from].trim() + " is too long", false, to - from > MOST_LINES);
+        }
+    }
+
     private static void checkSource() throws IOException {
         String source = Files.readString(Path.of("src/main/java/FineScrip.java"));
         String code = source.replaceAll("(?s)/\\*.*?\\*/", "").replaceAll("//[^\n]*", "");
@@ -122,6 +163,7 @@ public final class FineScripShape {
             Matcher found = Pattern.compile(pattern).matcher(code);
             due("'" + pattern + "' stands in the source", false, found.find());
         }
+        checkLengths(source);
         Matcher thrown = Pattern.compile("throw\\b(?! new (IllegalState|IllegalArgument|IndexOutOfBounds)Exception\\(\"[^\"]+\"\\);)")
             .matcher(code.replaceAll("throws\\b", ""));
         due("another throw stands in the source", false, thrown.find());
@@ -129,6 +171,7 @@ public final class FineScripShape {
 
     public static void main(String[] args) throws IOException {
         checkMembers();
+        checkSizes();
         checkSource();
         System.out.println(wrong == 0 ? "the shape is as due" : wrong + " faults of shape");
         if (wrong != 0) {
